@@ -9,6 +9,9 @@ public final class CollectionsTest {
         movedTells();
         removesCyclesAndWeaks();
         keepsContents();
+        movesToWhereAnotherWasPinned();
+        correctsTheFieldsOfTheFirst();
+        reportsTheLatestAlone();
         stackWithRoom();
         overflowAndScans();
         secondScan();
@@ -169,6 +172,47 @@ public final class CollectionsTest {
         Check.due("size", x.object(0, 1), 13);
         Check.due("fields", x.object(0, 2), 6);
         Check.due("free behind", x.object(13, 0), BAD);
+    }
+
+    private static void movesToWhereAnotherWasPinned() {
+        IslandHeap x = heap(10, 3);
+        x.alloc(0, 0);
+        x.pin(x.alloc(0, 0), true);
+        x.reset(10, 3);
+        x.alloc(0, 1);
+        x.setRoot(0, x.alloc(0, 0));
+        x.setRoot(1, x.alloc(0, 0));
+        x.collect();
+        Check.due("moved to 1", x.root(1), 1);
+        Check.due("not pinned", x.object(1, 4), 0);
+        Check.due("no pinned ones", x.count(3), 0);
+        Check.due("nothing keeps it", x.setRoot(1, NONE), 1);
+        Check.due("freed", x.collect(), 1);
+    }
+
+    private static void correctsTheFieldsOfTheFirst() {
+        IslandHeap x = heap(20, 3);
+        x.alloc(2, 0);
+        x.alloc(0, 3);
+        x.alloc(0, 2);
+        x.setField(0, 0, 9);
+        x.setField(0, 1, 7);
+        x.setRoot(0, 0);
+        Check.due("freed", x.collect(), 4);
+        Check.due("field", x.field(0, 0), 5);
+        Check.due("field", x.field(0, 1), 3);
+    }
+
+    private static void reportsTheLatestAlone() {
+        IslandHeap x = fan(2);
+        x.collect();
+        reports("with three leaves", x, 4, 7, 1, 2, 0, 0);
+        x.setRoot(0, 4);
+        Check.due("freed", x.collect(), 6);
+        reports("a leaf alone", x, 1, 1, 0, 1, 1, 4);
+        x.setRoot(0, NONE);
+        Check.due("freed", x.collect(), 1);
+        reports("nothing", x, 0, 0, 0, 0, 0, 0);
     }
 
     /** One object with three fields, to three objects without fields. */

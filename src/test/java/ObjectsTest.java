@@ -98,6 +98,9 @@ public final class ObjectsTest {
         Check.due("report after reset", x.report(0), STATE);
         Check.due("moved after reset", x.moved(0), STATE);
         Check.due("as new", x.digest(), new IslandHeap().digest());
+        x.alloc(1, 1);
+        Check.due("the new object is not pinned", x.object(0, 4), 0);
+        Check.due("its age", x.object(0, 5), 0);
     }
 
     private static void resetLeavesTextAndSlots() {

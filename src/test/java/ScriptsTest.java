@@ -11,6 +11,7 @@ public final class ScriptsTest {
         numbersAndBlanks();
         everyByteInPlaceOfACommand();
         runsEachCommand();
+        runsWithThreeDigits();
         runsUntilAnError();
         eachErrorOfACommand();
         noneIsNoErrorOfACommand();
@@ -198,6 +199,22 @@ public final class ScriptsTest {
         Check.due("c freed the first", x.count(6), 1);
         Check.due("f-", x.field(4, 0), NONE);
         Check.due("c corrected the field", x.field(0, 0), 5);
+    }
+
+    private static void runsWithThreeDigits() {
+        IslandHeap x = new IslandHeap();
+        x.reset(200, 1);
+        Check.due("all done", ran(x, "n66;".repeat(15)), 15);
+        Check.due("all done", ran(x, "p187;p104;r0194;r1 98;r2007;f131 5 142;f 065 0 1;"), 7);
+        Check.due("p", x.object(182, 4), 1);
+        Check.due("p", x.object(104, 4), 1);
+        Check.due("pinned", x.count(3), 2);
+        Check.due("r", x.root(0), 194);
+        Check.due("r", x.root(1), 98);
+        Check.due("r", x.root(2), 7);
+        Check.due("f", x.field(130, 5), 142);
+        Check.due("f", x.field(65, 0), 1);
+        Check.due("behind the last object", ran(x, "r0195;"), 0);
     }
 
     private static void runsUntilAnError() {
